@@ -72,6 +72,7 @@ public final class SongsAndHoursTest {
         }
         Check.due("a 25th", x.song(100, 1, 1, 1, false), -1);
         Check.due("24 songs", x.count(1), 24);
+        Check.due("asks of 24 songs", x.ask(23) + x.count(5), 2);
     }
 
     private static void votesMakeHeat() {

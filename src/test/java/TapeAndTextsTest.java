@@ -76,6 +76,11 @@ public final class TapeAndTextsTest {
         Check.due("end(7)", x.end(7), true);
         Check.due("seven", x.count(6), 7);
         Check.due("end(8)", x.end(8), false);
+        x.end(0);
+        Check.tape(x, "slack 9000;");
+        x.end(9);
+        Check.due("what was cut off is not read", x.rules(), -10);
+        Check.due("900 is fine, the end is not", x.fault(), 1);
     }
 
     private static void rules(String text, int want, int fault) {
@@ -259,6 +264,8 @@ public final class TapeAndTextsTest {
         clock(Check.blanks(234) + "talk 36000", -240, 1);
         clock("talk 3600;" + Check.blanks(224) + "talk 3600", -240, 3);
         clock(Check.blanks(239) + "songs 3600;", -241, 1);
+        clock("x".repeat(260), -1, 1);
+        clock("talk 3600;" + "7".repeat(250), -11, 1);
         clock(Check.blanks(239) + "sings 3600;", -240, 1);
     }
 
