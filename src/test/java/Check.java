@@ -1,3 +1,6 @@
+import java.io.IOException;
+import java.nio.file.Files;
+import java.nio.file.Path;
 import java.util.NoSuchElementException;
 
 /** What the tests share: telling wrong answers, and texts put on the tape. */
@@ -6,8 +9,12 @@ final class Check {
     static final long INDEX = Long.MIN_VALUE;
     static final long ELEMENT = Long.MIN_VALUE + 1;
 
+    private static final Path DOCUMENT = Path.of("../shared/DOC.md");
+
     private static int wrong = 0;
     private static int calls = 0;
+    private static String heading = "";
+    private static String document = null;
 
     interface Call {
         long answer();
@@ -19,8 +26,27 @@ final class Check {
         calls++;
         if (got != want) {
             wrong++;
-            System.out.println(what + " answered " + word(got) + ", due is " + word(want));
+            System.out.println(heading + what + " answered " + word(got) + ", due is " + word(want));
         }
+    }
+
+    /** What follows tries this sentence, which must stand in the document word for word. */
+    static void sentence(String words) {
+        heading = "";
+        due("the document says '" + words + "'", document().contains(words), true);
+        heading = "'" + words + "': ";
+    }
+
+    private static String document() {
+        if (document == null) {
+            try {
+                document = Files.readString(DOCUMENT);
+            } catch (IOException e) {
+                System.out.println("no document at " + DOCUMENT);
+                document = "";
+            }
+        }
+        return document;
     }
 
     static void due(String what, boolean got, boolean want) {
@@ -91,5 +117,32 @@ final class Check {
 
     static String blanks(int n) {
         return " ".repeat(n);
+    }
+
+    /** A text of rules on a new object: what it answers, and the kind of its fault. */
+    static void dueRules(String text, int want, int fault) {
+        SongHour x = new SongHour();
+        String name = "rules '" + shown(text) + "'";
+        due(name, rules(x, text), want);
+        due(name + ": fault()", x.fault(), fault);
+        due(name + ": the tape", x.count(6), 0);
+    }
+
+    /** A text of a clock on a new object: what it answers, and the kind of its fault. */
+    static void dueClock(String text, int want, int fault) {
+        SongHour x = new SongHour();
+        String name = "clock '" + shown(text) + "'";
+        due(name, clock(x, 3, text), want);
+        due(name + ": fault()", x.fault(), fault);
+        due(name + ": the tape", x.count(6), 0);
+        due(name + ": items", x.items(3), Math.max(want, 0));
+    }
+
+    private static String shown(String text) {
+        StringBuilder all = new StringBuilder();
+        for (char c : text.toCharArray()) {
+            all.append(c >= 32 && c < 127 ? String.valueOf(c) : "<" + (int) c + ">");
+        }
+        return all.toString();
     }
 }

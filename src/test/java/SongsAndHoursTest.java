@@ -32,27 +32,6 @@ public final class SongsAndHoursTest {
         Check.finish("SongsAndHoursTest");
     }
 
-    private static SongHour with(String rules, String clock) {
-        SongHour x = new SongHour();
-        Check.due("rules '" + rules + "' are fine", Check.rules(x, rules) >= 0, true);
-        Check.due("clock '" + clock + "' is fine", Check.clock(x, 0, clock) > 0, true);
-        return x;
-    }
-
-    private static void songs(SongHour x, int... seconds) {
-        for (int n : seconds) {
-            x.song(n, x.count(1) % 12, 0, 0, false);
-        }
-    }
-
-    /** The plays from a number on are of these songs, and there are no more. */
-    private static void plays(String name, SongHour x, int from, int... want) {
-        Check.due(name + ": how many plays", x.count(2), from + want.length);
-        for (int i = 0; i < want.length && from + i < x.count(2); i++) {
-            Check.due(name + ": song of play " + (from + i), x.play(from + i, 0), want[i]);
-        }
-    }
-
     private static void songsAreNumbered() {
         SongHour x = new SongHour();
         Check.due("29 seconds", x.song(29, 0, 0, 0, false), -1);
@@ -78,7 +57,7 @@ public final class SongsAndHoursTest {
     private static void votesMakeHeat() {
         SongHour x = new SongHour();
         Check.due("no song", x.vote(0, 1), -1);
-        songs(x, 100, 100);
+        Station.songs(x, 100, 100);
         Check.due("song -1", x.vote(-1, 1), -1);
         Check.due("song 2", x.vote(2, 1), -1);
         Check.due("mark -1", x.vote(0, -1), -1);
@@ -102,7 +81,7 @@ public final class SongsAndHoursTest {
     private static void asksMakeHeat() {
         SongHour x = new SongHour();
         Check.due("no song", x.ask(0), -1);
-        songs(x, 100, 100);
+        Station.songs(x, 100, 100);
         Check.due("song -1", x.ask(-1), -1);
         Check.due("song 2", x.ask(2), -1);
         for (int i = 1; i <= 20; i++) {
@@ -131,7 +110,7 @@ public final class SongsAndHoursTest {
     }
 
     private static void layStopsAt168Hours() {
-        SongHour x = with("", "talk 3000;songs 600;");
+        SongHour x = Station.with("", "talk 3000;songs 600;");
         for (int h = 0; h < 168; h++) {
             Check.due("hour " + h, x.lay(0), 0);
         }
@@ -145,8 +124,8 @@ public final class SongsAndHoursTest {
     }
 
     private static void layStopsAheadOf300Plays() {
-        SongHour x = with(FREE + "slack 0;", "songs 120;songs 120;songs 120;songs 120;songs 120;songs 120;songs 2880;");
-        songs(x, 30);
+        SongHour x = Station.with(FREE + "slack 0;", "songs 120;songs 120;songs 120;songs 120;songs 120;songs 120;songs 2880;");
+        Station.songs(x, 30);
         for (int h = 0; h < 12; h++) {
             Check.due("six stretches with four songs each, hour " + h, x.lay(0), 6);
         }
@@ -171,45 +150,45 @@ public final class SongsAndHoursTest {
     }
 
     private static void leastIsLeft() {
-        SongHour x = with("artist 0;", "songs 1000;talk 2600;");
-        songs(x, 300, 450, 549, 690);
+        SongHour x = Station.with("artist 0;", "songs 1000;talk 2600;");
+        Station.songs(x, 300, 450, 549, 690);
         Check.due("laid", x.lay(0), 1);
-        plays("300 + 690 leaves 10, 450 + 549 leaves 1", x, 0, 1, 2);
+        Station.duePlays("300 + 690 leaves 10, 450 + 549 leaves 1", x, 0, 1, 2);
         Check.due("left", x.left(0, 0), 1);
-        SongHour y = with("", "songs 1000;talk 2600;");
-        songs(y, 900, 400, 300, 300, 40);
+        SongHour y = Station.with("", "songs 1000;talk 2600;");
+        Station.songs(y, 900, 400, 300, 300, 40);
         y.lay(0);
-        plays("400 + 300 + 300 beats 900 + 40 at the end", y, 0, 1, 2, 3);
+        Station.duePlays("400 + 300 + 300 beats 900 + 40 at the end", y, 0, 1, 2, 3);
         Check.due("none left", y.left(0, 0), 0);
-        SongHour z = with("", "songs 299;talk 3301;");
-        songs(z, 300);
+        SongHour z = Station.with("", "songs 299;talk 3301;");
+        Station.songs(z, 300);
         Check.due("one second too long", z.lay(0), 0);
-        SongHour w = with("", "songs 300;talk 3300;");
-        songs(w, 300);
+        SongHour w = Station.with("", "songs 300;talk 3300;");
+        Station.songs(w, 300);
         Check.due("just long enough", w.lay(0), 1);
     }
 
     private static void slackBoundsWhatIsLeft() {
-        SongHour x = with("slack 10;", "songs 310;talk 3290;");
-        songs(x, 300);
+        SongHour x = Station.with("slack 10;", "songs 310;talk 3290;");
+        Station.songs(x, 300);
         Check.due("ten left", x.lay(0), 1);
-        SongHour y = with("slack 9;", "songs 310;talk 3290;");
-        songs(y, 300);
+        SongHour y = Station.with("slack 9;", "songs 310;talk 3290;");
+        Station.songs(y, 300);
         Check.due("nine may be left", y.lay(0), 0);
         Check.due("all of it left", y.left(0, 0), 310);
-        SongHour z = with("slack 900;", "songs 899;talk 2701;");
-        songs(z, 900);
+        SongHour z = Station.with("slack 900;", "songs 899;talk 2701;");
+        Station.songs(z, 900);
         Check.due("no row of no songs", z.lay(0), 0);
-        SongHour w = with("", "songs 360;songs 361;talk 2879;");
-        songs(w, 300, 300);
+        SongHour w = Station.with("", "songs 360;songs 361;talk 2879;");
+        Station.songs(w, 300, 300);
         Check.due("sixty without a rule", w.lay(0), 1);
         Check.due("61 are too many", w.left(0, 1), 361);
     }
 
     private static void mostBoundsTheRow() {
         for (int most = 1; most <= 4; most++) {
-            SongHour x = with(FREE + "slack 900;most " + most + ";", "songs 500;talk 3100;");
-            songs(x, 100);
+            SongHour x = Station.with(FREE + "slack 900;most " + most + ";", "songs 500;talk 3100;");
+            Station.songs(x, 100);
             Check.due("most " + most, x.lay(0), 1);
             Check.due("plays of most " + most, x.count(2), most);
             Check.due("left of most " + most, x.left(0, 0), 500 - 100 * most);
@@ -217,22 +196,22 @@ public final class SongsAndHoursTest {
     }
 
     private static void gapKeepsSongsApart() {
-        SongHour x = with("gap 60;artist 0;most 1;", "songs 300;talk 3300;");
-        songs(x, 300);
+        SongHour x = Station.with("gap 60;artist 0;most 1;", "songs 300;talk 3300;");
+        Station.songs(x, 300);
         Check.due("first", x.lay(0), 1);
         Check.due("sixty minutes later", x.lay(0), 1);
         Check.rules(x, "gap 61;artist 0;most 1;");
         Check.due("less than 61 minutes later", x.lay(0), 0);
         Check.due("two hours later", x.lay(0), 1);
-        SongHour y = with("gap 5;artist 0;", "songs 600;talk 3000;");
-        songs(y, 300);
+        SongHour y = Station.with("gap 5;artist 0;", "songs 600;talk 3000;");
+        Station.songs(y, 300);
         Check.due("in the row, five minutes later", y.lay(0), 1);
-        plays("twice", y, 0, 0, 0);
-        SongHour z = with("gap 6;artist 0;", "songs 600;talk 3000;");
-        songs(z, 300);
+        Station.duePlays("twice", y, 0, 0, 0);
+        SongHour z = Station.with("gap 6;artist 0;", "songs 600;talk 3000;");
+        Station.songs(z, 300);
         Check.due("in the row, less than six minutes later", z.lay(0), 0);
-        SongHour w = with("gap 61;artist 0;", "songs 200;talk 3340;songs 60;");
-        songs(w, 200, 60);
+        SongHour w = Station.with("gap 61;artist 0;", "songs 200;talk 3340;songs 60;");
+        Station.songs(w, 200, 60);
         w.lay(0);
         Check.clock(w, 0, "songs 260;talk 3340;");
         Check.due("free only behind another of the row", w.lay(0), 0);
@@ -241,7 +220,7 @@ public final class SongsAndHoursTest {
     }
 
     private static void artistKeepsArtistsApart() {
-        SongHour x = with("gap 0;artist 60;most 1;", "songs 300;talk 3300;");
+        SongHour x = Station.with("gap 0;artist 60;most 1;", "songs 300;talk 3300;");
         x.song(300, 7, 0, 0, false);
         x.lay(0);
         Check.due("sixty minutes later", x.lay(0), 1);
@@ -251,17 +230,17 @@ public final class SongsAndHoursTest {
         x.lay(0);
         Check.rules(x, "gap 0;artist 121;most 1;");
         x.lay(0);
-        plays("another artist", x, 2, 0, 1);
-        SongHour y = with("artist 5;", "songs 550;talk 3050;");
+        Station.duePlays("another artist", x, 2, 0, 1);
+        SongHour y = Station.with("artist 5;", "songs 550;talk 3050;");
         y.song(250, 3, 0, 0, false);
         y.song(300, 3, 0, 0, false);
         Check.due("in the row five minutes apart", y.lay(0), 1);
-        plays("the longer one first", y, 0, 1, 0);
-        SongHour z = with("artist 6;", "songs 550;talk 3050;");
+        Station.duePlays("the longer one first", y, 0, 1, 0);
+        SongHour z = Station.with("artist 6;", "songs 550;talk 3050;");
         z.song(250, 3, 0, 0, false);
         z.song(300, 3, 0, 0, false);
         Check.due("in the row too soon", z.lay(0), 0);
-        SongHour w = with("", "songs 550;talk 3050;");
+        SongHour w = Station.with("", "songs 550;talk 3050;");
         w.song(250, 3, 0, 0, false);
         w.song(300, 4, 0, 0, false);
         Check.due("two artists", w.lay(0), 1);
@@ -270,7 +249,7 @@ public final class SongsAndHoursTest {
     private static void keysGoTogether() {
         for (int steps = 0; steps <= 6; steps++) {
             for (int key = 0; key < 12; key++) {
-                SongHour x = with("keys " + steps + ";", "songs 500;talk 3100;");
+                SongHour x = Station.with("keys " + steps + ";", "songs 500;talk 3100;");
                 x.song(200, 0, 3, 0, false);
                 x.song(300, 1, key, 0, false);
                 int way = Math.abs(3 - key);
@@ -278,81 +257,81 @@ public final class SongsAndHoursTest {
                 Check.due("keys 3 and " + key + " within " + steps, x.lay(0), isNear ? 1 : 0);
             }
         }
-        SongHour y = with("keys 1;", "songs 600;talk 3000;");
+        SongHour y = Station.with("keys 1;", "songs 600;talk 3000;");
         y.song(200, 0, 0, 0, false);
         y.song(201, 1, 2, 0, false);
         y.song(199, 2, 1, 0, false);
         Check.due("one between", y.lay(0), 1);
-        plays("one between", y, 0, 0, 2, 1);
+        Station.duePlays("one between", y, 0, 0, 2, 1);
     }
 
     private static void keysGoWithTheSongAhead() {
-        SongHour x = with("keys 2;slack 10;", "songs 300;songs 400;talk 2900;");
+        SongHour x = Station.with("keys 2;slack 10;", "songs 300;songs 400;talk 2900;");
         x.song(300, 0, 0, 0, false);
         x.song(400, 1, 3, 0, false);
         Check.due("the song ahead ended just then", x.lay(0), 1);
-        SongHour y = with("keys 2;slack 10;", "songs 301;songs 400;talk 2899;");
+        SongHour y = Station.with("keys 2;slack 10;", "songs 301;songs 400;talk 2899;");
         y.song(300, 0, 0, 0, false);
         y.song(400, 1, 3, 0, false);
         Check.due("it ended a second ahead", y.lay(0), 2);
-        SongHour z = with("keys 2;slack 10;", "songs 300;talk 1;songs 400;talk 2899;");
+        SongHour z = Station.with("keys 2;slack 10;", "songs 300;talk 1;songs 400;talk 2899;");
         z.song(300, 0, 0, 0, false);
         z.song(400, 1, 3, 0, false);
         Check.due("talk between", z.lay(0), 2);
-        SongHour w = with("keys 0;", "talk 3000;songs 600;");
+        SongHour w = Station.with("keys 0;", "talk 3000;songs 600;");
         w.song(600, 0, 5, 0, false);
         w.song(500, 1, 6, 0, false);
         w.song(500, 2, 5, 0, false);
         w.lay(0);
         Check.clock(w, 0, "songs 500;talk 3100;");
         w.lay(0);
-        plays("over the hour's end", w, 0, 0, 2);
+        Station.duePlays("over the hour's end", w, 0, 0, 2);
     }
 
     private static void moodAndNew() {
-        SongHour x = with("", "songs 500 mood 2;talk 3100;");
+        SongHour x = Station.with("", "songs 500 mood 2;talk 3100;");
         x.song(500, 0, 0, 1, false);
         x.song(200, 1, 0, 2, false);
         x.song(280, 2, 0, 2, false);
         x.song(300, 3, 0, 3, false);
         Check.due("mood 2", x.lay(0), 1);
-        plays("all of mood 2", x, 0, 1, 2);
-        SongHour y = with("", "songs 500 mood 0;talk 3100;");
+        Station.duePlays("all of mood 2", x, 0, 1, 2);
+        SongHour y = Station.with("", "songs 500 mood 0;talk 3100;");
         y.song(500, 0, 0, 1, false);
         Check.due("mood 0 is told", y.lay(0), 0);
         int[][] want = {{1, 2}, {1, 2}, {0, 1}, {}};
         for (int fresh = 0; fresh <= 3; fresh++) {
-            SongHour z = with("", "songs 500 new " + fresh + ";talk 3100;");
+            SongHour z = Station.with("", "songs 500 new " + fresh + ";talk 3100;");
             z.song(200, 0, 0, 0, true);
             z.song(290, 1, 0, 0, true);
             z.song(210, 2, 0, 0, false);
             z.lay(0);
-            plays("new " + fresh, z, 0, want[fresh]);
+            Station.duePlays("new " + fresh, z, 0, want[fresh]);
         }
-        SongHour w = with(FREE, "songs 400 mood 1 new 4;songs 400 mood 1;talk 2800;");
+        SongHour w = Station.with(FREE, "songs 400 mood 1 new 4;songs 400 mood 1;talk 2800;");
         w.song(100, 0, 0, 1, true);
         w.song(400, 0, 0, 1, false);
         w.song(400, 0, 0, 0, true);
         w.lay(0);
-        plays("four new ones, then none needed", w, 0, 0, 0, 0, 0, 0, 0, 0, 0);
-        SongHour v = with(FREE + "most 3;", "songs 400 new 4;talk 3200;");
+        Station.duePlays("four new ones, then none needed", w, 0, 0, 0, 0, 0, 0, 0, 0, 0);
+        SongHour v = Station.with(FREE + "most 3;", "songs 400 new 4;talk 3200;");
         v.song(100, 0, 0, 1, true);
         Check.due("four new ones of three at most", v.lay(0), 0);
     }
 
     private static void heatDecides() {
-        SongHour x = with("most 1;", "songs 300;talk 3300;");
-        songs(x, 300, 300, 300, 299);
+        SongHour x = Station.with("most 1;", "songs 300;talk 3300;");
+        Station.songs(x, 300, 300, 300, 299);
         x.vote(1, 3);
         x.vote(2, 4);
         x.vote(3, 9);
         x.lay(0);
-        plays("the warmest of the longest", x, 0, 2);
+        Station.duePlays("the warmest of the longest", x, 0, 2);
         x.ask(0);
         x.lay(0);
-        plays("an ask is warmer than a vote", x, 1, 0);
-        SongHour y = with("", "songs 600;talk 3000;");
-        songs(y, 300, 300, 300, 600, 200, 200, 200);
+        Station.duePlays("an ask is warmer than a vote", x, 1, 0);
+        SongHour y = Station.with("", "songs 600;talk 3000;");
+        Station.songs(y, 300, 300, 300, 600, 200, 200, 200);
         y.vote(0, 5);
         y.vote(2, 5);
         y.vote(3, 9);
@@ -360,55 +339,55 @@ public final class SongsAndHoursTest {
         y.vote(5, 5);
         y.vote(6, 1);
         y.lay(0);
-        plays("together: 5 + 5 + 1 is more than 9 and 5 + 5", y, 0, 4, 5, 6);
-        SongHour z = with(FREE, "songs 300;talk 3300;");
-        songs(z, 300, 100);
+        Station.duePlays("together: 5 + 5 + 1 is more than 9 and 5 + 5", y, 0, 4, 5, 6);
+        SongHour z = Station.with(FREE, "songs 300;talk 3300;");
+        Station.songs(z, 300, 100);
         z.vote(0, 8);
         z.vote(1, 3);
         z.lay(0);
-        plays("a song counts as often as it comes", z, 0, 1, 1, 1);
+        Station.duePlays("a song counts as often as it comes", z, 0, 1, 1, 1);
     }
 
     private static void heatIsThatOfTheHoursBeginning() {
-        SongHour x = with(FREE + "most 1;", "songs 300;talk 10;songs 300;talk 2990;");
-        songs(x, 300, 300);
+        SongHour x = Station.with(FREE + "most 1;", "songs 300;talk 10;songs 300;talk 2990;");
+        Station.songs(x, 300, 300);
         x.vote(0, 9);
         x.ask(1);
         Check.due("laid", x.lay(0), 2);
-        plays("the ask that is done warms to the hour's end", x, 0, 1, 1);
+        Station.duePlays("the ask that is done warms to the hour's end", x, 0, 1, 1);
         Check.due("it is done", x.told(1, 4), 1);
         x.lay(0);
-        plays("and no more then", x, 2, 0, 0);
+        Station.duePlays("and no more then", x, 2, 0, 0);
     }
 
     private static void numbersDecide() {
-        SongHour x = with("", "songs 600;talk 3000;");
-        songs(x, 200, 300, 300, 200, 200, 300, 600);
+        SongHour x = Station.with("", "songs 600;talk 3000;");
+        Station.songs(x, 200, 300, 300, 200, 200, 300, 600);
         x.lay(0);
-        plays("0 3 4 is ahead of 1 2 and of 6", x, 0, 0, 3, 4);
-        SongHour y = with("", "songs 600;talk 3000;");
-        songs(y, 400, 300, 300, 200, 600);
+        Station.duePlays("0 3 4 is ahead of 1 2 and of 6", x, 0, 0, 3, 4);
+        SongHour y = Station.with("", "songs 600;talk 3000;");
+        Station.songs(y, 400, 300, 300, 200, 600);
         y.lay(0);
-        plays("0 3 is ahead of 1 2, 3 0 and 4", y, 0, 0, 3);
-        SongHour z = with("", "songs 600;talk 3000;");
-        songs(z, 600, 300, 300);
+        Station.duePlays("0 3 is ahead of 1 2, 3 0 and 4", y, 0, 0, 3);
+        SongHour z = Station.with("", "songs 600;talk 3000;");
+        Station.songs(z, 600, 300, 300);
         z.lay(0);
-        plays("0 is ahead of 1 2", z, 0, 0);
-        SongHour w = with(FREE + "slack 0;", "songs 400;talk 3200;");
-        songs(w, 150, 100, 50);
+        Station.duePlays("0 is ahead of 1 2", z, 0, 0);
+        SongHour w = Station.with(FREE + "slack 0;", "songs 400;talk 3200;");
+        Station.songs(w, 150, 100, 50);
         w.lay(0);
-        plays("0 0 1 is ahead of 0 0 2 2 and 1 1 1 1", w, 0, 0, 0, 1);
+        Station.duePlays("0 0 1 is ahead of 0 0 2 2 and 1 1 1 1", w, 0, 0, 0, 1);
     }
 
     private static void asksAreDone() {
-        SongHour x = with(FREE + "slack 0;most 2;", "songs 400;talk 3200;");
-        songs(x, 200, 200);
+        SongHour x = Station.with(FREE + "slack 0;most 2;", "songs 400;talk 3200;");
+        Station.songs(x, 200, 200);
         for (int i = 0; i < 3; i++) {
             x.ask(1);
         }
         x.vote(1, 4);
         x.lay(0);
-        plays("asked for", x, 0, 1, 1);
+        Station.duePlays("asked for", x, 0, 1, 1);
         Check.due("one for each of the two", x.told(1, 3), 1);
         Check.due("done", x.told(1, 4), 2);
         Check.due("heat", x.told(1, 0), 19);
@@ -424,8 +403,8 @@ public final class SongsAndHoursTest {
     }
 
     private static void playsAreTold() {
-        SongHour x = with(FREE + "slack 0;most 2;", "talk 100;songs 500;talk 1000;songs 2000;");
-        songs(x, 200, 300);
+        SongHour x = Station.with(FREE + "slack 0;most 2;", "talk 100;songs 500;talk 1000;songs 2000;");
+        Station.songs(x, 200, 300);
         Check.dueThrow("none yet", () -> x.play(0, 0), Check.ELEMENT);
         Check.due("told(0, 1)", x.told(0, 1), 0);
         Check.due("told(0, 2)", x.told(0, 2), -1);
@@ -448,16 +427,16 @@ public final class SongsAndHoursTest {
         Check.due("told(0, -1)", x.told(0, -1), -2);
         Check.due("told(2, 0)", x.told(2, 0), -2);
         Check.due("told(-1, 0)", x.told(-1, 0), -2);
-        SongHour y = with(FREE + "slack 0;", "songs 100;talk 3000;songs 500;");
-        songs(y, 100, 500);
+        SongHour y = Station.with(FREE + "slack 0;", "songs 100;talk 3000;songs 500;");
+        Station.songs(y, 100, 500);
         y.lay(0);
         Check.due("item 0", y.play(0, 3), 0);
         Check.due("item 2", y.play(1, 3), 2);
     }
 
     private static void whatIsLeftIsKept() {
-        SongHour x = with("", "talk 100;songs 520;songs 480;talk 2500;");
-        songs(x, 500);
+        SongHour x = Station.with("", "talk 100;songs 520;songs 480;talk 2500;");
+        Station.songs(x, 500);
         Check.dueThrow("no hour yet", () -> x.left(0, 0), Check.ELEMENT);
         x.lay(0);
         Check.clock(x, 0, "talk 3600;");
@@ -477,8 +456,8 @@ public final class SongsAndHoursTest {
     }
 
     private static void atFindsPlays() {
-        SongHour x = with("slack 20;", "talk 100;songs 520;talk 2980;");
-        songs(x, 200, 300);
+        SongHour x = Station.with("slack 20;", "talk 100;songs 520;talk 2980;");
+        Station.songs(x, 200, 300);
         Check.due("none yet", x.at(100), -1);
         x.lay(0);
         int[][] want = {{99, -1}, {100, 0}, {299, 0}, {300, 1}, {599, 1}, {600, -1}, {-1, -1},
@@ -489,7 +468,7 @@ public final class SongsAndHoursTest {
     }
 
     private static void rightsCountSeconds() {
-        SongHour x = with("gap 0;artist 0;slack 0;most 2;", "talk 100;songs 500;talk 3000;");
+        SongHour x = Station.with("gap 0;artist 0;slack 0;most 2;", "talk 100;songs 500;talk 3000;");
         x.song(200, 4, 0, 0, false);
         x.song(300, 5, 0, 0, false);
         x.lay(0);
@@ -504,20 +483,20 @@ public final class SongsAndHoursTest {
         for (int[] w : want) {
             Check.due("rights(" + w[0] + ", " + w[1] + ", " + w[2] + ")", x.rights(w[0], w[1], w[2]), w[3]);
         }
-        SongHour y = with("artist 60;slack 0;", "songs 200;songs 300;songs 3100;");
+        SongHour y = Station.with("artist 60;slack 0;", "songs 200;songs 300;songs 3100;");
         y.song(200, 0, 0, 0, false);
         y.song(300, 11, 0, 0, false);
         y.song(300, 0, 0, 0, false);
         y.vote(2, 9);
         y.lay(0);
-        plays("artist 0 is kept apart too", y, 0, 0, 1);
+        Station.duePlays("artist 0 is kept apart too", y, 0, 0, 1);
         Check.due("rights of artist 0", y.rights(0, 0, 3600), 200);
         Check.due("rights of artist 11", y.rights(11, 0, 3600), 300);
     }
 
     private static void countsAreKept() {
-        SongHour x = with("slack 20;", "talk 100;songs 520;songs 480;talk 2500;");
-        songs(x, 200, 300);
+        SongHour x = Station.with("slack 20;", "talk 100;songs 520;songs 480;talk 2500;");
+        Station.songs(x, 200, 300);
         x.ask(0);
         x.ask(1);
         x.ask(1);
@@ -535,7 +514,7 @@ public final class SongsAndHoursTest {
 
     /** No row fits and none can be seen not to: as dear as it gets, and it must still end soon. */
     private static void aDearHourEnds() {
-        SongHour x = with(FREE + "slack 0;", "songs 801;songs 803;songs 805;songs 807;talk 384;");
+        SongHour x = Station.with(FREE + "slack 0;", "songs 801;songs 803;songs 805;songs 807;talk 384;");
         for (int s = 0; s < 24; s++) {
             x.song(100 + 10 * s, s % 12, s % 12, 0, s % 2 == 0);
         }

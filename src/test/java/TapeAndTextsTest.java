@@ -83,20 +83,12 @@ public final class TapeAndTextsTest {
         Check.due("900 is fine, the end is not", x.fault(), 1);
     }
 
-    private static void rules(String text, int want, int fault) {
-        SongHour x = new SongHour();
-        String name = "rules '" + text + "'";
-        Check.due(name, Check.rules(x, text), want);
-        Check.due(name + ": fault()", x.fault(), fault);
-        Check.due(name + ": the tape", x.count(6), 0);
-    }
-
     private static void rulesAreTold() {
-        rules("", 0, 0);
-        rules(" \n ", 0, 0);
-        rules("gap 0;artist 0;keys 0;slack 0;most 1;", 5, 0);
-        rules("most 4;slack 900;keys 6;artist 9999;gap 9999;", 5, 0);
-        rules("\ngap\n0009\n;\n \nkeys 1 ; ", 2, 0);
+        Check.dueRules("", 0, 0);
+        Check.dueRules(" \n ", 0, 0);
+        Check.dueRules("gap 0;artist 0;keys 0;slack 0;most 1;", 5, 0);
+        Check.dueRules("most 4;slack 900;keys 6;artist 9999;gap 9999;", 5, 0);
+        Check.dueRules("\ngap\n0009\n;\n \nkeys 1 ; ", 2, 0);
         SongHour x = new SongHour();
         Check.rules(x, "gap 1;artist 2;keys 3;slack 4;most 2;");
         int[] want = {1, 2, 3, 4, 2};
@@ -113,84 +105,75 @@ public final class TapeAndTextsTest {
     }
 
     private static void rulesHaveFaults() {
-        rules("gap", -4, 1);
-        rules("gap  ", -6, 1);
-        rules("gap 5", -6, 1);
-        rules("gap;", -4, 1);
-        rules("gap gap", -5, 1);
-        rules("gap 5 5;", -7, 1);
-        rules("gap 12345;", -5, 1);
-        rules("gap 00001;", -5, 1);
-        rules("gap5;", -1, 1);
-        rules("gap 5a;", -5, 1);
-        rules("gap 5A;", -6, 1);
-        rules("gap\t5;", -4, 1);
-        rules("gap 5\r;", -6, 1);
-        rules("5;", -1, 1);
-        rules(";", -1, 1);
-        rules("  ga 5;", -3, 1);
-        rules("talk 5;", -1, 1);
-        rules("gap 5;" + (char) 225, -7, 1);
-        rules("gap -5;", -5, 1);
-        rules("most ?;", -6, 1);
-        rules("gapz 1;", -1, 1);
-        rules("zap 1;", -1, 1);
-        rules("gaq 1;", -1, 1);
-        rules("most 1/;", -7, 1);
-        rules("most 1:;", -7, 1);
-        rules("most`1;", -5, 1);
-        rules("most{1;", -5, 1);
-        rules("keys 7;", -6, 2);
-        rules("slack 0901;", -7, 2);
-        rules("most 0;", -6, 2);
-        rules("most 5 x", -6, 2);
-        rules("gap 1;keys 2;gap 3;", -14, 3);
-        rules("gap 1;gap", -7, 3);
-        rules("gap 1; gap 99999;", -8, 3);
-        rules("gap 1;gaps 1;", -7, 1);
-        rules("gap 1;artist 1;keys 1;slack 1;most 1;x", -38, 1);
-        rules("gap 1;artist 1;keys 1;slack 1;most 1;most", -38, 3);
+        Check.dueRules("gap", -4, 1);
+        Check.dueRules("gap  ", -6, 1);
+        Check.dueRules("gap 5", -6, 1);
+        Check.dueRules("gap;", -4, 1);
+        Check.dueRules("gap gap", -5, 1);
+        Check.dueRules("gap 5 5;", -7, 1);
+        Check.dueRules("gap 12345;", -5, 1);
+        Check.dueRules("gap 00001;", -5, 1);
+        Check.dueRules("gap5;", -1, 1);
+        Check.dueRules("gap 5a;", -5, 1);
+        Check.dueRules("gap 5A;", -6, 1);
+        Check.dueRules("gap\t5;", -4, 1);
+        Check.dueRules("gap 5\r;", -6, 1);
+        Check.dueRules("5;", -1, 1);
+        Check.dueRules(";", -1, 1);
+        Check.dueRules("  ga 5;", -3, 1);
+        Check.dueRules("talk 5;", -1, 1);
+        Check.dueRules("gap 5;" + (char) 225, -7, 1);
+        Check.dueRules("gap -5;", -5, 1);
+        Check.dueRules("most ?;", -6, 1);
+        Check.dueRules("gapz 1;", -1, 1);
+        Check.dueRules("zap 1;", -1, 1);
+        Check.dueRules("gaq 1;", -1, 1);
+        Check.dueRules("most 1/;", -7, 1);
+        Check.dueRules("most 1:;", -7, 1);
+        Check.dueRules("most`1;", -5, 1);
+        Check.dueRules("most{1;", -5, 1);
+        Check.dueRules("keys 7;", -6, 2);
+        Check.dueRules("slack 0901;", -7, 2);
+        Check.dueRules("most 0;", -6, 2);
+        Check.dueRules("most 5 x", -6, 2);
+        Check.dueRules("gap 1;keys 2;gap 3;", -14, 3);
+        Check.dueRules("gap 1;gap", -7, 3);
+        Check.dueRules("gap 1; gap 99999;", -8, 3);
+        Check.dueRules("gap 1;gaps 1;", -7, 1);
+        Check.dueRules("gap 1;artist 1;keys 1;slack 1;most 1;x", -38, 1);
+        Check.dueRules("gap 1;artist 1;keys 1;slack 1;most 1;most", -38, 3);
     }
 
     private static void rulesHaveALimit() {
         String five = "gap 5;";
-        rules(five + Check.blanks(114), 1, 0);
-        rules(five + Check.blanks(115), -121, 1);
-        rules(five + Check.blanks(254), -121, 1);
-        rules(five + Check.blanks(114) + "?", -121, 1);
-        rules(five + Check.blanks(113) + "?", -120, 1);
-        rules(five + Check.blanks(113) + "? ", -120, 1);
+        Check.dueRules(five + Check.blanks(114), 1, 0);
+        Check.dueRules(five + Check.blanks(115), -121, 1);
+        Check.dueRules(five + Check.blanks(254), -121, 1);
+        Check.dueRules(five + Check.blanks(114) + "?", -121, 1);
+        Check.dueRules(five + Check.blanks(113) + "?", -120, 1);
+        Check.dueRules(five + Check.blanks(113) + "? ", -120, 1);
         // A token that begins ahead of byte 120 is read whole: no fault but the limit's.
-        rules(Check.blanks(113) + "keys 6;;", -121, 1);
-        rules(Check.blanks(114) + "keys 66;", -120, 2);
-        rules(Check.blanks(114) + "keys 12345", -120, 1);
-        rules(Check.blanks(114) + "keys 0006", -121, 1);
-        rules(Check.blanks(118) + "keys 7;", -121, 1);
-        rules(Check.blanks(118) + "keyz 7;", -119, 1);
-        rules(Check.blanks(113) + "gap;", -117, 1);
-        rules(Check.blanks(120), 0, 0);
-        rules(Check.blanks(117) + "gap", -121, 1);
-        rules(five + Check.blanks(111) + "gap 1;", -118, 3);
-        rules(five + Check.blanks(114) + "gap 1;", -121, 1);
-    }
-
-    private static void clock(String text, int want, int fault) {
-        SongHour x = new SongHour();
-        String name = "clock '" + text + "'";
-        Check.due(name, Check.clock(x, 3, text), want);
-        Check.due(name + ": fault()", x.fault(), fault);
-        Check.due(name + ": the tape", x.count(6), 0);
-        Check.due(name + ": items", x.items(3), Math.max(want, 0));
+        Check.dueRules(Check.blanks(113) + "keys 6;;", -121, 1);
+        Check.dueRules(Check.blanks(114) + "keys 66;", -120, 2);
+        Check.dueRules(Check.blanks(114) + "keys 12345", -120, 1);
+        Check.dueRules(Check.blanks(114) + "keys 0006", -121, 1);
+        Check.dueRules(Check.blanks(118) + "keys 7;", -121, 1);
+        Check.dueRules(Check.blanks(118) + "keyz 7;", -119, 1);
+        Check.dueRules(Check.blanks(113) + "gap;", -117, 1);
+        Check.dueRules(Check.blanks(120), 0, 0);
+        Check.dueRules(Check.blanks(117) + "gap", -121, 1);
+        Check.dueRules(five + Check.blanks(111) + "gap 1;", -118, 3);
+        Check.dueRules(five + Check.blanks(114) + "gap 1;", -121, 1);
     }
 
     private static void clocksAreTold() {
-        clock("talk 3600;", 1, 0);
-        clock("songs 3600;", 1, 0);
-        clock("talk 1;songs 3599 mood 0 new 0;", 2, 0);
-        clock("songs 1 mood 3;songs 3599 new 4;", 2, 0);
-        clock("\nsongs\n0100\nmood\n0003\nnew\n0004\n;\ntalk 3500 ;\n", 2, 0);
-        clock("talk 450;talk 450;talk 450;talk 450;talk 450;talk 450;talk 450;talk 450;", 8, 0);
-        clock("talk 1;talk 1;talk 1;talk 1;talk 1;talk 1;talk 1;talk 3593;", 8, 0);
+        Check.dueClock("talk 3600;", 1, 0);
+        Check.dueClock("songs 3600;", 1, 0);
+        Check.dueClock("talk 1;songs 3599 mood 0 new 0;", 2, 0);
+        Check.dueClock("songs 1 mood 3;songs 3599 new 4;", 2, 0);
+        Check.dueClock("\nsongs\n0100\nmood\n0003\nnew\n0004\n;\ntalk 3500 ;\n", 2, 0);
+        Check.dueClock("talk 450;talk 450;talk 450;talk 450;talk 450;talk 450;talk 450;talk 450;", 8, 0);
+        Check.dueClock("talk 1;talk 1;talk 1;talk 1;talk 1;talk 1;talk 1;talk 3593;", 8, 0);
         SongHour x = new SongHour();
         Check.clock(x, 5, "talk 1000;talk 2600;");
         Check.due("a clock of two", x.items(5), 2);
@@ -209,64 +192,64 @@ public final class TapeAndTextsTest {
     }
 
     private static void clocksHaveFaults() {
-        clock("", -1, 4);
-        clock("  ", -3, 4);
-        clock("talk 3599; ", -12, 4);
-        clock("talk 3601;", -6, 2);
-        clock("talk 0;", -6, 2);
-        clock("talk 10000;", -6, 1);
-        clock("songs 0;", -7, 2);
-        clock("songs 9999;", -7, 2);
-        clock("talk 3600;talk 1;", -16, 3);
-        clock("talk 3600;talk", -15, 1);
-        clock("talk 3600;talk 0;", -16, 2);
-        clock("talk 3600;talk 3601;", -16, 2);
-        clock("songs 3000;songs 601", -18, 3);
-        clock("talk 3600", -10, 1);
-        clock("talk;", -5, 1);
-        clock("gap 3600;", -1, 1);
-        clock("talks 3600;", -1, 1);
-        clock("song 3600;", -1, 1);
-        clock("talk 3600 new 1;", -11, 1);
-        clock("talk 3600 mood 1;", -11, 1);
-        clock("songs 3600 mood;", -16, 1);
-        clock("songs 3600 mood 4;", -17, 2);
-        clock("songs 3600 mood 3 mood 3;", -19, 1);
-        clock("songs 3600 new 5;", -16, 2);
-        clock("songs 3600 new 1 new 1;", -18, 1);
-        clock("songs 3600 new 1 mood 1;", -18, 1);
-        clock("songs 3600 new", -15, 1);
-        clock("songs 3600 new 1", -17, 1);
-        clock("songs 3600 3;", -12, 1);
-        clock("songs 3600 talk;", -12, 1);
-        clock("songs 3600mood 1;", -7, 1);
-        clock("songs3600;", -1, 1);
-        clock("songs 3600;;", -12, 1);
+        Check.dueClock("", -1, 4);
+        Check.dueClock("  ", -3, 4);
+        Check.dueClock("talk 3599; ", -12, 4);
+        Check.dueClock("talk 3601;", -6, 2);
+        Check.dueClock("talk 0;", -6, 2);
+        Check.dueClock("talk 10000;", -6, 1);
+        Check.dueClock("songs 0;", -7, 2);
+        Check.dueClock("songs 9999;", -7, 2);
+        Check.dueClock("talk 3600;talk 1;", -16, 3);
+        Check.dueClock("talk 3600;talk", -15, 1);
+        Check.dueClock("talk 3600;talk 0;", -16, 2);
+        Check.dueClock("talk 3600;talk 3601;", -16, 2);
+        Check.dueClock("songs 3000;songs 601", -18, 3);
+        Check.dueClock("talk 3600", -10, 1);
+        Check.dueClock("talk;", -5, 1);
+        Check.dueClock("gap 3600;", -1, 1);
+        Check.dueClock("talks 3600;", -1, 1);
+        Check.dueClock("song 3600;", -1, 1);
+        Check.dueClock("talk 3600 new 1;", -11, 1);
+        Check.dueClock("talk 3600 mood 1;", -11, 1);
+        Check.dueClock("songs 3600 mood;", -16, 1);
+        Check.dueClock("songs 3600 mood 4;", -17, 2);
+        Check.dueClock("songs 3600 mood 3 mood 3;", -19, 1);
+        Check.dueClock("songs 3600 new 5;", -16, 2);
+        Check.dueClock("songs 3600 new 1 new 1;", -18, 1);
+        Check.dueClock("songs 3600 new 1 mood 1;", -18, 1);
+        Check.dueClock("songs 3600 new", -15, 1);
+        Check.dueClock("songs 3600 new 1", -17, 1);
+        Check.dueClock("songs 3600 3;", -12, 1);
+        Check.dueClock("songs 3600 talk;", -12, 1);
+        Check.dueClock("songs 3600mood 1;", -7, 1);
+        Check.dueClock("songs3600;", -1, 1);
+        Check.dueClock("songs 3600;;", -12, 1);
         String eight = "talk 1;talk 1;talk 1;talk 1;talk 1;talk 1;talk 1;talk 1;";
-        clock(eight, -57, 4);
-        clock(eight + "talk 1;", -57, 3);
-        clock(eight + "songs", -57, 3);
-        clock(eight + "tal 1;", -57, 1);
-        clock(eight + "mood 1;", -57, 1);
-        clock(eight + "9", -57, 1);
+        Check.dueClock(eight, -57, 4);
+        Check.dueClock(eight + "talk 1;", -57, 3);
+        Check.dueClock(eight + "songs", -57, 3);
+        Check.dueClock(eight + "tal 1;", -57, 1);
+        Check.dueClock(eight + "mood 1;", -57, 1);
+        Check.dueClock(eight + "9", -57, 1);
     }
 
     private static void clocksHaveALimit() {
-        clock("talk 3600;" + Check.blanks(230), 1, 0);
-        clock("talk 3600;" + Check.blanks(231), -241, 1);
-        clock("talk 3599;" + Check.blanks(230), -241, 4);
-        clock("talk 3599;" + Check.blanks(231), -241, 1);
-        clock("talk 3599;" + Check.blanks(229) + "?", -240, 1);
-        clock(Check.blanks(230) + "talk 3600;", 1, 0);
-        clock(Check.blanks(231) + "talk 3600;", -241, 1);
-        clock(Check.blanks(234) + "talk 3600", -241, 1);
-        clock(Check.blanks(234) + "talk 3601", -240, 2);
-        clock(Check.blanks(234) + "talk 36000", -240, 1);
-        clock("talk 3600;" + Check.blanks(224) + "talk 3600", -240, 3);
-        clock(Check.blanks(239) + "songs 3600;", -241, 1);
-        clock("x".repeat(260), -1, 1);
-        clock("talk 3600;" + "7".repeat(250), -11, 1);
-        clock(Check.blanks(239) + "sings 3600;", -240, 1);
+        Check.dueClock("talk 3600;" + Check.blanks(230), 1, 0);
+        Check.dueClock("talk 3600;" + Check.blanks(231), -241, 1);
+        Check.dueClock("talk 3599;" + Check.blanks(230), -241, 4);
+        Check.dueClock("talk 3599;" + Check.blanks(231), -241, 1);
+        Check.dueClock("talk 3599;" + Check.blanks(229) + "?", -240, 1);
+        Check.dueClock(Check.blanks(230) + "talk 3600;", 1, 0);
+        Check.dueClock(Check.blanks(231) + "talk 3600;", -241, 1);
+        Check.dueClock(Check.blanks(234) + "talk 3600", -241, 1);
+        Check.dueClock(Check.blanks(234) + "talk 3601", -240, 2);
+        Check.dueClock(Check.blanks(234) + "talk 36000", -240, 1);
+        Check.dueClock("talk 3600;" + Check.blanks(224) + "talk 3600", -240, 3);
+        Check.dueClock(Check.blanks(239) + "songs 3600;", -241, 1);
+        Check.dueClock("x".repeat(260), -1, 1);
+        Check.dueClock("talk 3600;" + "7".repeat(250), -11, 1);
+        Check.dueClock(Check.blanks(239) + "sings 3600;", -240, 1);
     }
 
     private static void faultIsTheLatestCalls() {
