@@ -34,6 +34,7 @@ public final class EdgesOfHoursTest {
         moodIsOfAll();
         newOnesAreEnough();
         fewestSecondsAreLeft();
+        fewestSecondsWhateverTheOrder();
         mostHeatTogether();
         heatIsOfTheHoursLaying();
         theFirstOfLikeRows();
@@ -43,6 +44,7 @@ public final class EdgesOfHoursTest {
         rightsHaveBounds();
         layAnswers();
         layRefuses();
+        clocksAreToldAnew();
         toldTells();
         playTells();
         leftTells();
@@ -569,6 +571,25 @@ public final class EdgesOfHoursTest {
         Check.due("left", z.left(0, 0), 829);
     }
 
+    private static void fewestSecondsWhateverTheOrder() {
+        Check.sentence("Of all such ROWS that with the fewest seconds left");
+        int[] lengths = {100, 200, 300, 400};
+        for (int order = 0; order < 256; order++) {
+            int[] picked = {order & 3, order >> 2 & 3, order >> 4 & 3, order >> 6};
+            if ((1 << picked[0] | 1 << picked[1] | 1 << picked[2] | 1 << picked[3]) != 15) {
+                continue;
+            }
+            SongHour x = Station.with("slack 99;most 1;", "songs 100;songs 299;songs 301;songs 499;talk 2401;");
+            for (int i : picked) {
+                Station.songs(x, lengths[i]);
+            }
+            Check.due("order " + order, x.lay(0), 4);
+            for (int p = 0; p < x.count(2); p++) {
+                Check.due("order " + order + ", play " + p, picked[x.play(p, 0)], p);
+            }
+        }
+    }
+
     private static void mostHeatTogether() {
         Check.sentence("of like ones the most HEAT together (as it is when the HOUR is LAID)");
         SongHour x = stretch("slack 0;", 600, 600, 300, 300, 300, 150, 150);
@@ -837,6 +858,24 @@ public final class EdgesOfHoursTest {
         for (int k : wrong) {
             Check.dueThrow("there are 168, lay(" + k + ")", () -> x.lay(k), Check.INDEX);
         }
+    }
+
+    private static void clocksAreToldAnew() {
+        Check.sentence("CLOCK k is the tape: how many ITEMS");
+        SongHour x = Station.with(FREE + "slack 0;", "songs 300 mood 3 new 4;talk 100;songs 300 new 2;talk 2900;");
+        Station.songs(x, 300);
+        Check.due("mood 3, four new ones", x.lay(0), 0);
+        Check.clock(x, 0, "songs 300;songs 300;songs 300;talk 2700;");
+        Check.due("nothing of the earlier text stays", x.lay(0), 3);
+        Check.clock(x, 0, "songs 300 mood 0;talk 300;talk 3000;");
+        Check.due("talk where songs were", x.lay(0), 1);
+        Check.due("left of talk", x.left(2, 1), 0);
+        Check.due("the hour ahead stays", x.play(1, 3), 1);
+        // Each clock is its own, and a text that was refused leaves nothing in the next one.
+        Check.clock(x, 1, "songs 300 mood 2 new 3;talk 3299;");
+        Check.clock(x, 1, "songs 300;talk 3300;");
+        Check.due("behind a refused text", x.lay(1), 1);
+        Check.due("clock 0 is as it was", x.lay(0), 1);
     }
 
     private static void toldTells() {

@@ -36,6 +36,7 @@ public final class EdgesOfTextsTest {
         noTokenIsAFault();
         whatCannotComeInRules();
         whatCannotComeInClocks();
+        wordsAreTheseAlone();
         rulesEndTooSoon();
         clocksEndTooSoon();
         rulesHave120Bytes();
@@ -459,6 +460,34 @@ public final class EdgesOfTextsTest {
         cannotComeInClock("songs 9 mood 1 new ", "talk", "songs", "mood", "new", "x", ";");
         cannotComeInClock("songs 9 mood 1 new 1 ", "talk", "songs", "mood", "new", "x", "5");
         cannotComeInClock("songs 9 mood 1 new 1 ; ", "mood", "new", "x", "5", ";");
+    }
+
+    private static void wordsAreTheseAlone() {
+        Check.sentence("or one that can't come (at it;");
+        for (String word : RULES) {
+            cannotComeInRules("", nearly(word));
+            cannotComeInRules((word.equals("gap") ? "most" : "gap") + " 1;", nearly(word));
+        }
+        cannotComeInClock("", nearly("talk"));
+        cannotComeInClock("talk 5;", nearly("songs"));
+        cannotComeInClock("songs 5 ", nearly("mood"));
+        cannotComeInClock("songs 5 ", nearly("new"));
+        cannotComeInClock("songs 5 mood 2 ", nearly("new"));
+    }
+
+    /** The word with another letter at each place, and with one less or more at either end. */
+    private static String[] nearly(String word) {
+        int n = word.length();
+        String[] all = new String[n + 4];
+        for (int i = 0; i < n; i++) {
+            char other = word.charAt(i) == 'z' ? 'a' : (char) (word.charAt(i) + 1);
+            all[i] = word.substring(0, i) + other + word.substring(i + 1);
+        }
+        all[n] = word.substring(1);
+        all[n + 1] = word.substring(0, n - 1);
+        all[n + 2] = word + word.charAt(n - 1);
+        all[n + 3] = word.charAt(0) + word;
+        return all;
     }
 
     private static void rulesEndTooSoon() {
