@@ -33,7 +33,9 @@ final class Check {
     /** What follows tries this sentence, which must stand in the document word for word. */
     static void sentence(String words) {
         heading = "";
-        due("the document says '" + words + "'", document().contains(words), true);
+        if (!document().isEmpty()) {
+            due("the document says '" + words + "'", document().contains(words), true);
+        }
         heading = "'" + words + "': ";
     }
 
@@ -42,7 +44,8 @@ final class Check {
             try {
                 document = Files.readString(DOCUMENT);
             } catch (IOException e) {
-                System.out.println("no document at " + DOCUMENT);
+                // The answers can be looked at without it; only the quotations can't.
+                System.out.println("no document at " + DOCUMENT + ": quotations are not compared");
                 document = "";
             }
         }
